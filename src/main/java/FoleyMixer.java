@@ -16,8 +16,8 @@ public final class FoleyMixer {
     private static final int LOUD = 2;
     private static final int HARD = 3;
     private static final int CUE_NUMBERS = 4;
-    private static final int[] LEAST_OF_CUE = {0, 1, 1, 0};
-    private static final int[] MOST_OF_CUE = {99, 20, 30, 1};
+    private static final int[] LEAST_OF_CUE = {0, 1, 1};
+    private static final int[] MOST_OF_CUE = {99, 20, 30};
 
     private static final int DUCKING = 0;
     private static final int RELEASE = 1;

@@ -66,6 +66,8 @@ final class QueryTest {
         CHECK.due("a louder soft noise", noiseOf(x, 2), "4 5 7 0 17 0 4");
         CHECK.due("the levels", seconds(x, 3, 9, 3), "0 9 6 6 7 7 0");
         CHECK.due("the strongest", seconds(x, 3, 9, 5), "-1 2 1 1 1 1 -1");
+        CHECK.due("a strength of 1", seconds(Scene.played("n5+2@1"), 4, 7, 5), "-1 0 0 -1");
+        CHECK.due("ducked only behind its end", noiseOf(Scene.played("w5+2@20;n4+1@5"), 0), "4 1 5 0 5 0 0");
         CHECK.due("a noise that is ducked away", seconds(Scene.played("w5+2@20;n5+3@6"), 4, 8, 5), "-1 -1 -1 0 -1");
     }
 
@@ -85,6 +87,8 @@ final class QueryTest {
         CHECK.due("at the margin", wordOf(Scene.played("w5+3@12;N6+1@10"), 0), "5 3 12 3 -1 1 10");
         CHECK.due("under it", wordOf(Scene.played("w5+3@11;N6+1@10"), 0), "5 3 11 2 6 0 10");
         FoleyMixer x = Scene.played("w5+3@1;w9+1@2");
+        CHECK.due("masked in the second 0", Scene.played("w0+2@9;N0+1@9").wordOf(0, 4), 0);
+        CHECK.due("covered only behind its end", wordOf(Scene.played("w5+2@9;N7+1@9;N4+1@8"), 0), "5 2 9 2 -1 1 0");
         CHECK.due("masked with nothing around", wordOf(x, 0), "5 3 1 0 5 0 0");
         CHECK.due("heard with nothing around", wordOf(x, 1), "9 1 2 1 -1 1 0");
         x.set(3, 0);
@@ -125,6 +129,7 @@ final class QueryTest {
         CHECK.due("now the other", x.count(6), 2);
         CHECK.due("masked by words alone", Scene.played("w0+1@5;w0+1@5;n5+1@9").count(6), -1);
         CHECK.due("more seconds win", Scene.played("w0+5@9;N0+2@9;N2+3@9").count(6), 1);
+        CHECK.due("one second is enough", Scene.played("n9+1@9;w0+4@9;N3+9@9").count(6), 1);
         CHECK.due("of as many the lowest", Scene.played("w0+4@9;N0+2@9;N2+2@30").count(6), 0);
         CHECK.due("a strength of 0 masks nothing", Scene.played("w0+4@1;n0+4@6").count(6), -1);
     }
