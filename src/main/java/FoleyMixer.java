@@ -582,7 +582,7 @@ public final class FoleyMixer {
         }
 
         private int settingOf(int setting) {
-            return entry(settings, setting);
+            return setting >= 0 && setting < settings.length ? settings[setting] : 0;
         }
 
         private void change(int setting, int value) {

@@ -21,54 +21,30 @@ final class QueryTest {
         CHECK.end();
     }
 
-    private static String wordOf(FoleyMixer x, int word) {
-        StringBuilder text = new StringBuilder();
-        for (int what = 0; what <= 6; what++) {
-            text.append(x.wordOf(word, what)).append(' ');
-        }
-        return text.toString().trim();
-    }
-
-    private static String noiseOf(FoleyMixer x, int noise) {
-        StringBuilder text = new StringBuilder();
-        for (int what = 0; what <= 6; what++) {
-            text.append(x.noiseOf(noise, what)).append(' ');
-        }
-        return text.toString().trim();
-    }
-
-    private static String seconds(FoleyMixer x, int from, int to, int what) {
-        StringBuilder text = new StringBuilder();
-        for (int second = from; second <= to; second++) {
-            text.append(x.second(second, what)).append(' ');
-        }
-        return text.toString().trim();
-    }
-
     private static void ducking() {
         FoleyMixer x = Scene.played("w2+2@9;w5+1@9");
-        CHECK.due("ducking", seconds(x, 0, 9, 0), "0 0 6 6 4 6 4 2 0 0");
+        CHECK.due("ducking", Told.seconds(x, 0, 9, 0), "0 0 6 6 4 6 4 2 0 0");
         x.set(1, 4);
-        CHECK.due("a release that does not divide", seconds(x, 2, 9, 0), "6 6 2 6 2 0 0 0");
+        CHECK.due("a release that does not divide", Told.seconds(x, 2, 9, 0), "6 6 2 6 2 0 0 0");
         x.set(0, 0);
-        CHECK.due("no ducking", seconds(x, 0, 9, 0), "0 0 0 0 0 0 0 0 0 0");
+        CHECK.due("no ducking", Told.seconds(x, 0, 9, 0), "0 0 0 0 0 0 0 0 0 0");
         x.set(0, 20);
         x.set(1, 1);
-        CHECK.due("the longest release", seconds(x, 24, 27, 0), "1 0 0 0");
-        CHECK.due("a word in the second 0", seconds(Scene.played("w0+1@9"), 0, 4, 0), "6 4 2 0 0");
-        CHECK.due("a word at the end", seconds(Scene.played("w99+20@9"), 117, 119, 0), "6 6 4");
+        CHECK.due("the longest release", Told.seconds(x, 24, 27, 0), "1 0 0 0");
+        CHECK.due("a word in the second 0", Told.seconds(Scene.played("w0+1@9"), 0, 4, 0), "6 4 2 0 0");
+        CHECK.due("a word at the end", Told.seconds(Scene.played("w99+20@9"), 117, 119, 0), "6 6 4");
     }
 
     private static void strengths() {
         FoleyMixer x = Scene.played("w5+2@20;n4+5@5;N4+5@5;n4+5@7");
-        CHECK.due("a soft noise", noiseOf(x, 0), "4 5 5 0 9 0 4");
-        CHECK.due("a hard noise", noiseOf(x, 1), "4 5 5 1 25 0 0");
-        CHECK.due("a louder soft noise", noiseOf(x, 2), "4 5 7 0 17 0 4");
-        CHECK.due("the levels", seconds(x, 3, 9, 3), "0 9 6 6 7 7 0");
-        CHECK.due("the strongest", seconds(x, 3, 9, 5), "-1 2 1 1 1 1 -1");
-        CHECK.due("a strength of 1", seconds(Scene.played("n5+2@1"), 4, 7, 5), "-1 0 0 -1");
-        CHECK.due("ducked only behind its end", noiseOf(Scene.played("w5+2@20;n4+1@5"), 0), "4 1 5 0 5 0 0");
-        CHECK.due("a noise that is ducked away", seconds(Scene.played("w5+2@20;n5+3@6"), 4, 8, 5), "-1 -1 -1 0 -1");
+        CHECK.due("a soft noise", Told.noise(x, 0), "4 5 5 0 9 0 4");
+        CHECK.due("a hard noise", Told.noise(x, 1), "4 5 5 1 25 0 0");
+        CHECK.due("a louder soft noise", Told.noise(x, 2), "4 5 7 0 17 0 4");
+        CHECK.due("the levels", Told.seconds(x, 3, 9, 3), "0 9 6 6 7 7 0");
+        CHECK.due("the strongest", Told.seconds(x, 3, 9, 5), "-1 2 1 1 1 1 -1");
+        CHECK.due("a strength of 1", Told.seconds(Scene.played("n5+2@1"), 4, 7, 5), "-1 0 0 -1");
+        CHECK.due("ducked only behind its end", Told.noise(Scene.played("w5+2@20;n4+1@5"), 0), "4 1 5 0 5 0 0");
+        CHECK.due("a noise ducked away", Told.seconds(Scene.played("w5+2@20;n5+3@6"), 4, 8, 5), "-1 -1 -1 0 -1");
     }
 
     private static void levels() {
@@ -84,24 +60,24 @@ final class QueryTest {
     }
 
     private static void margins() {
-        CHECK.due("at the margin", wordOf(Scene.played("w5+3@12;N6+1@10"), 0), "5 3 12 3 -1 1 10");
-        CHECK.due("under it", wordOf(Scene.played("w5+3@11;N6+1@10"), 0), "5 3 11 2 6 0 10");
+        CHECK.due("at the margin", Told.word(Scene.played("w5+3@12;N6+1@10"), 0), "5 3 12 3 -1 1 10");
+        CHECK.due("under it", Told.word(Scene.played("w5+3@11;N6+1@10"), 0), "5 3 11 2 6 0 10");
         FoleyMixer x = Scene.played("w5+3@1;w9+1@2");
         CHECK.due("masked in the second 0", Scene.played("w0+2@9;N0+1@9").wordOf(0, 4), 0);
-        CHECK.due("covered only behind its end", wordOf(Scene.played("w5+2@9;N7+1@9;N4+1@8"), 0), "5 2 9 2 -1 1 0");
-        CHECK.due("masked with nothing around", wordOf(x, 0), "5 3 1 0 5 0 0");
-        CHECK.due("heard with nothing around", wordOf(x, 1), "9 1 2 1 -1 1 0");
+        CHECK.due("covered only behind its end", Told.word(Scene.played("w5+2@9;N7+1@9;N4+1@8"), 0), "5 2 9 2 -1 1 0");
+        CHECK.due("masked with nothing around", Told.word(x, 0), "5 3 1 0 5 0 0");
+        CHECK.due("heard with nothing around", Told.word(x, 1), "9 1 2 1 -1 1 0");
         x.set(3, 0);
-        CHECK.due("no margin", wordOf(x, 0), "5 3 1 3 -1 1 0");
+        CHECK.due("no margin", Told.word(x, 0), "5 3 1 3 -1 1 0");
         x.set(3, 10);
         CHECK.due("the greatest margin", x.count(3), 4);
     }
 
     private static void wordsOverWords() {
         FoleyMixer x = Scene.played("w0+4@20;w2+4@20;w3+1@5;n3+1@9");
-        CHECK.due("covered by two words and a noise", wordOf(x, 0), "0 4 20 2 2 0 22");
-        CHECK.due("and the other", wordOf(x, 1), "2 4 20 2 2 0 22");
-        CHECK.due("and the low one", wordOf(x, 2), "3 1 5 0 3 0 22");
+        CHECK.due("covered by two words and a noise", Told.word(x, 0), "0 4 20 2 2 0 22");
+        CHECK.due("and the other", Told.word(x, 1), "2 4 20 2 2 0 22");
+        CHECK.due("and the low one", Told.word(x, 2), "3 1 5 0 3 0 22");
         CHECK.due("a word is not its own cover", Scene.played("w0+4@20").wordOf(0, 6), 0);
         CHECK.due("words are not ducked", Scene.played("w0+1@20;w0+1@18").wordOf(0, 6), 18);
         CHECK.due("words are in no noise level", x.second(3, 3), 3);
@@ -119,9 +95,9 @@ final class QueryTest {
 
     private static void noisesThatMask() {
         FoleyMixer x = Scene.played("w5+4@12;n3+10@1;N6+2@20;N7+2@20;w50+1@1");
-        CHECK.due("no strength, but some word is masked", noiseOf(x, 0), "3 10 1 0 4 3 6");
-        CHECK.due("the first masker", noiseOf(x, 1), "6 2 20 1 40 2 0");
-        CHECK.due("the second masker", noiseOf(x, 2), "7 2 20 1 40 2 0");
+        CHECK.due("no strength, but some word is masked", Told.noise(x, 0), "3 10 1 0 4 3 6");
+        CHECK.due("the first masker", Told.noise(x, 1), "6 2 20 1 40 2 0");
+        CHECK.due("the second masker", Told.noise(x, 2), "7 2 20 1 40 2 0");
         CHECK.due("masks most", x.count(6), 1);
         x.shift(false, 1, 1);
         CHECK.due("still the lowest number", x.count(6), 1);
@@ -136,10 +112,10 @@ final class QueryTest {
 
     private static void seconds() {
         FoleyMixer x = Scene.played("w5+2@12;w6+2@10;N6+1@11;n6+3@3;n99+20@1");
-        CHECK.due("words", seconds(x, 4, 8, 1), "0 1 3 2 0");
-        CHECK.due("noises", seconds(x, 4, 9, 2), "0 0 3 2 2 0");
-        CHECK.due("masked", seconds(x, 4, 8, 4), "0 0 3 0 0");
-        CHECK.due("the last second of all", seconds(x, 118, 119, 2), "4 0");
+        CHECK.due("words", Told.seconds(x, 4, 8, 1), "0 1 3 2 0");
+        CHECK.due("noises", Told.seconds(x, 4, 9, 2), "0 0 3 2 2 0");
+        CHECK.due("masked", Told.seconds(x, 4, 8, 4), "0 0 3 0 0");
+        CHECK.due("the last second of all", Told.seconds(x, 118, 119, 2), "4 0");
         FoleyMixer full = new FoleyMixer();
         for (int i = 0; i < 10; i++) {
             full.noise(50, 1, 7, true);

@@ -31,6 +31,28 @@ final class Told {
         return text.toString();
     }
 
+    /** What wordOf tells of a word, from 0 to 6. */
+    static String word(FoleyMixer mixer, int word) {
+        return row(0, 6, what -> mixer.wordOf(word, what));
+    }
+
+    /** What noiseOf tells of a noise, from 0 to 6. */
+    static String noise(FoleyMixer mixer, int noise) {
+        return row(0, 6, what -> mixer.noiseOf(noise, what));
+    }
+
+    static String seconds(FoleyMixer mixer, int from, int to, int what) {
+        return row(from, to, second -> mixer.second(second, what));
+    }
+
+    private static String row(int from, int to, java.util.function.IntUnaryOperator entry) {
+        StringBuilder text = new StringBuilder();
+        for (int i = from; i <= to; i++) {
+            text.append(entry.applyAsInt(i)).append(' ');
+        }
+        return text.toString().trim();
+    }
+
     static String all(FoleyMixer mixer) {
         return state(mixer) + "saved " + mixer.count(7) + " buffer " + mixer.count(8) + " " + buffer(mixer);
     }
@@ -38,7 +60,8 @@ final class Told {
     /** Uses the mixer up: undoes everything and goes back to both slots. */
     static String savedAndKept(FoleyMixer mixer) {
         StringBuilder text = new StringBuilder();
-        while (mixer.count(7) > 0) {
+        // Not until none is left: an undo that takes none away is to fail, not to go on for ever.
+        for (int turn = 0; turn < 9 && mixer.count(7) > 0; turn++) {
             text.append(mixer.undo()).append(": ").append(state(mixer)).append('\n');
         }
         for (int slot = 0; slot <= 1; slot++) {
