@@ -39,10 +39,10 @@ public final class FoleyMixer {
     // The sign behind the start, the length and the loudness of a cue.
     private static final int[] SIGN_BEHIND = {'+', '@', CUE_END};
 
-    private final Play now = new Play();
-    private final Play trial = new Play();
-    private final Mix mix = new Mix(now);
-    private final Mix trialMix = new Mix(trial);
+    private final Mix mix = new Mix();
+    private final Mix trialMix = new Mix();
+    private final Play now = mix.play;
+    private final Play trial = trialMix.play;
     private final History history = new History();
     private final Play[] snapshots = new Play[SLOTS];
     private final Script script = new Script();
@@ -571,11 +571,7 @@ public final class FoleyMixer {
     private static final class Play {
         private final Cues words = new Cues(MOST_WORDS);
         private final Cues noises = new Cues(MOST_NOISES);
-        private final int[] settings = new int[SETTINGS];
-
-        private Play() {
-            copyRow(FIRST_SETTINGS, settings);
-        }
+        private final int[] settings = FIRST_SETTINGS.clone();
 
         private Cues cuesOf(boolean isWord) {
             return isWord ? words : noises;
@@ -641,9 +637,9 @@ public final class FoleyMixer {
         }
     }
 
-    /** What a play sounds like, second by second. It tells the play as it was at the last refresh. */
+    /** A play and what it sounds like, second by second: as the play was at the last refresh. */
     private static final class Mix {
-        private final Play play;
+        private final Play play = new Play();
         private final int[] words = new int[SECONDS];
         private final int[] noises = new int[SECONDS];
         private final int[] ducking = new int[SECONDS];
@@ -651,10 +647,6 @@ public final class FoleyMixer {
         private final int[] greatestStrength = new int[SECONDS];
         private final int[] strengthCount = new int[SECONDS];
         private final int[] masked = new int[SECONDS];
-
-        private Mix(Play play) {
-            this.play = play;
-        }
 
         private void refresh() {
             play.words.markSounding(words);

@@ -11,7 +11,8 @@ final class RulesTest {
     private static final List<String> FORBIDDEN = List.of("\\bimport\\b", "\\bpackage\\b", "->", "::",
         "\\b(try|catch|finally|synchronized|assert|instanceof|lambda|protected|native|volatile|transient)\\b",
         "static \\{", "\\b(System|Object|Thread|Random|Character|Boolean|Long|Double|Float|Arrays|List)\\b",
-        "@\\w", "\\.(equals|hashCode|toString|getMessage)\\(", "new int\\[[^\\]]*[a-z]",
+        "@\\w", "\\.(equals|hashCode|toString|getMessage)\\(", "new [A-Z]\\w*\\([a-z]",
+        "\\bthis\\b[^.]", "new int\\[[^\\]]*[a-z]",
         "static (?!final)(int|long|boolean|char|String|Play)(\\[\\])? \\w+( =|;)");
 
     public static void main(String[] args) throws IOException {
